@@ -1,0 +1,53 @@
+import java.lang.reflect.InvocationTargetException;
+import java.lang.reflect.Method;
+import java.util.Arrays;
+import java.util.Comparator;
+
+/** Runs every method of the test classes that takes nothing and is not private. */
+public final class AllTests {
+    private static final Class<?>[] TESTS = {
+        FaceTest.class, LanguageTest.class, BasesAndJobsTest.class, RecipeTest.class,
+        WhatIsWhereTest.class, WashesPlateChipsTest.class, ModelRunsTest.class,
+    };
+
+    private static int passed;
+    private static int failed;
+
+    private AllTests() {
+    }
+
+    public static void main(String[] args) throws IllegalAccessException {
+        LanguageTest.source = args.length > 0 ? args[0] : "src/main/java/InkKitchen.java";
+        for (Class<?> tests : TESTS) {
+            Method[] methods = tests.getDeclaredMethods();
+            Arrays.sort(methods, Comparator.comparing(Method::getName));
+            for (Method method : methods) {
+                if (isTest(method)) {
+                    run(method);
+                }
+            }
+        }
+        System.out.println("own: " + passed + " passed, " + failed + " failed");
+        System.exit(failed == 0 && passed > 0 ? 0 : 1);
+    }
+
+    private static boolean isTest(Method method) {
+        return method.getParameterCount() == 0 && method.getReturnType() == void.class
+                && !method.isSynthetic()
+                && !java.lang.reflect.Modifier.isPrivate(method.getModifiers());
+    }
+
+    private static void run(Method test) throws IllegalAccessException {
+        String name = test.getDeclaringClass().getSimpleName() + "." + test.getName();
+        try {
+            test.invoke(null);
+            passed++;
+        } catch (InvocationTargetException e) {
+            failed++;
+            System.out.println("FAILED: " + name + ": " + e.getCause());
+            Arrays.stream(e.getCause().getStackTrace())
+                    .filter(line -> line.getClassName().equals(test.getDeclaringClass().getName()))
+                    .limit(3).forEach(line -> System.out.println("    at " + line));
+        }
+    }
+}
