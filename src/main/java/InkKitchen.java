@@ -471,13 +471,18 @@ public final class InkKitchen {
         final Recipe best = new Recipe();
         private final Ladle ladle = new Ladle();
         private final int[] nothing = new int[BASES];
+        private final int[] mostTenths = new int[BASES];
         private final int[] trial = new int[BASES];
         private final int[] tinParts = new int[PARTS];
         private boolean found;
+        /** The greatest gap that a recipe tried from now on may have. */
+        private int allowedGap;
 
         /** Tells whether there is a recipe; it stands in best then. */
         boolean find(Job job, Shelf shelf) {
             found = false;
+            allowedGap = job.gap;
+            countTenths(job, shelf.stock);
             for (int tenths = TENTHS; tenths > 0 && !found; tenths--) {
                 for (int tin = 0; tin < shelf.tinCount; tin++) {
                     tryTin(job, shelf, tin, tenths);
@@ -488,6 +493,13 @@ public final class InkKitchen {
                 tryBases(job, shelf, NONE, 0);
             }
             return found;
+        }
+
+        private void countTenths(Job job, Ink stock) {
+            int tenth = job.milligramsOfTenth();
+            for (int base = 0; base < BASES; base++) {
+                mostTenths[base] = tenth > 0 ? stock.milligrams[base] / tenth : 0;
+            }
         }
 
         private void tryTin(Job job, Shelf shelf, int tin, int tinTenths) {
@@ -509,28 +521,28 @@ public final class InkKitchen {
 
         private void tryBases(Job job, Shelf shelf, int tin, int tinTenths) {
             int left = TENTHS - tinTenths;
-            for (int zero = 0; zero <= left; zero++) {
-                for (int one = 0; one <= left - zero; one++) {
-                    for (int two = 0; two <= left - zero - one; two++) {
+            for (int zero = 0; zero <= left && zero <= mostTenths[0]; zero++) {
+                for (int one = 0; one <= left - zero && one <= mostTenths[1]; one++) {
+                    for (int two = 0; two <= left - zero - one && two <= mostTenths[2]; two++) {
                         trial[0] = zero;
                         trial[1] = one;
                         trial[2] = two;
                         trial[3] = left - zero - one - two;
-                        tryTrial(job, shelf, tin, tinTenths);
+                        if (trial[3] <= mostTenths[3]) {
+                            tryTrial(job, shelf, tin, tinTenths);
+                        }
                     }
                 }
             }
         }
 
         private void tryTrial(Job job, Shelf shelf, int tin, int tinTenths) {
-            if (!isInStock(job, shelf.stock)) {
-                return;
-            }
             int gap = gapOfTrial(job, shelf);
-            if (gap > job.gap || (found && gap >= best.gap)) {
+            if (gap > allowedGap) {
                 return;
             }
             found = true;
+            allowedGap = gap - 1;
             best.gap = gap;
             best.tin = tin;
             best.tinTenths = tinTenths;
@@ -539,23 +551,11 @@ public final class InkKitchen {
             }
         }
 
-        private boolean isInStock(Job job, Ink stock) {
-            int tenth = job.milligramsOfTenth();
-            for (int base = 0; base < BASES; base++) {
-                if (trial[base] * tenth > stock.milligrams[base]) {
-                    return false;
-                }
-            }
-            return true;
-        }
-
+        /** Looks at no further part once the gap is too great already. */
         private int gapOfTrial(Job job, Shelf shelf) {
             int tenth = job.milligramsOfTenth();
-            if (tenth <= 0) {
-                return 0;
-            }
             int gap = 0;
-            for (int part = 0; part < PARTS; part++) {
+            for (int part = 0; part < PARTS && gap <= allowedGap && tenth > 0; part++) {
                 int sum = tinParts[part] + tenth * shelf.weighedPart(trial, part);
                 gap += Math.abs(sum / (tenth * TENTHS) - job.wanted[part]);
             }
@@ -600,6 +600,8 @@ public final class InkKitchen {
         /** The row of the costs from the press as it stands. */
         private static final int PRESS = MOST_MIXED;
         private static final int ALL_SETS = 1 << MOST_MIXED;
+        /** Eight washes of twice a gap of 300 cost 4800. */
+        private static final int ABOVE_ANY_COST = 1000000;
 
         private final int[] runs = new int[MOST_MIXED];
         private final int[][] colours = new int[MOST_MIXED][PARTS];
@@ -632,6 +634,7 @@ public final class InkKitchen {
         int leastBySets() {
             int sets = 1 << count;
             for (int set = 0; set < sets && set < ALL_SETS; set++) {
+                // The answers for runs that stand in the set themselves are never read.
                 for (int from = 0; from <= MOST_MIXED; from++) {
                     least[set][from] = leastBehind(set, from);
                 }
@@ -644,7 +647,7 @@ public final class InkKitchen {
             if (set == 0) {
                 return 0;
             }
-            int cost = Integer.MAX_VALUE;
+            int cost = ABOVE_ANY_COST;
             for (int next = 0; next < count; next++) {
                 if ((set & (1 << next)) != 0) {
                     int rest = set & ~(1 << next) & (ALL_SETS - 1);
@@ -674,7 +677,7 @@ public final class InkKitchen {
             if (set == 0 || depth >= MOST_MIXED) {
                 return 0;
             }
-            int cost = Integer.MAX_VALUE;
+            int cost = ABOVE_ANY_COST;
             for (int next = 0; next < MOST_MIXED; next++) {
                 if ((set & (1 << next)) != 0) {
                     int behind = tryOrders(costs, set & ~(1 << next), next, depth + 1);

@@ -29,7 +29,7 @@ final class LanguageTest {
 
     static void onlyMathIsTakenFromTheLibrary() throws IOException {
         String[] known = {"InkKitchen", "Ink", "Shelf", "Ladle", "Job", "Recipe", "RecipeSearch",
-            "Press", "WashPlan", "Math", "Integer", "IllegalArgumentException",
+            "Press", "WashPlan", "Math", "IllegalArgumentException",
             "IllegalStateException", "IndexOutOfBoundsException"};
         String names = codeAlone().replaceAll("\\b(" + String.join("|", known) + ")\\b", "");
         Matcher matcher = Pattern.compile("\\b[A-Z]\\w*[a-z]\\w*\\b").matcher(names);
