@@ -1,13 +1,16 @@
 import java.lang.reflect.InvocationTargetException;
 import java.lang.reflect.Method;
+import java.util.ArrayList;
 import java.util.Arrays;
 import java.util.Comparator;
+import java.util.List;
 
 /** Runs every method of the test classes that takes nothing and is not private. */
 public final class AllTests {
     private static final Class<?>[] TESTS = {
-        FaceTest.class, LanguageTest.class, BasesAndJobsTest.class, RecipeTest.class,
-        WhatIsWhereTest.class, WashesPlateChipsTest.class, ModelRunsTest.class,
+        FaceTest.class, LanguageTest.class, SentencesTest.class, TermsTest.class,
+        BasesAndJobsTest.class, RecipeTest.class, MixAndPrintTest.class, WhatIsWhereTest.class,
+        WashesPlateChipsTest.class, ModelRunsTest.class,
     };
 
     private static int passed;
@@ -18,17 +21,26 @@ public final class AllTests {
 
     public static void main(String[] args) throws IllegalAccessException {
         LanguageTest.source = args.length > 0 ? args[0] : "src/main/java/InkKitchen.java";
-        for (Class<?> tests : TESTS) {
-            Method[] methods = tests.getDeclaredMethods();
-            Arrays.sort(methods, Comparator.comparing(Method::getName));
-            for (Method method : methods) {
-                if (isTest(method)) {
-                    run(method);
-                }
-            }
+        SentencesTest.document = args.length > 1 ? args[1] : "../shared/DOC.md";
+        for (Method test : tests()) {
+            run(test);
         }
         System.out.println("own: " + passed + " passed, " + failed + " failed");
         System.exit(failed == 0 && passed > 0 ? 0 : 1);
+    }
+
+    static List<Method> tests() {
+        List<Method> tests = new ArrayList<>();
+        for (Class<?> owner : TESTS) {
+            Method[] methods = owner.getDeclaredMethods();
+            Arrays.sort(methods, Comparator.comparing(Method::getName));
+            for (Method method : methods) {
+                if (isTest(method)) {
+                    tests.add(method);
+                }
+            }
+        }
+        return tests;
     }
 
     private static boolean isTest(Method method) {

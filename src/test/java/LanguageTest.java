@@ -38,7 +38,8 @@ final class LanguageTest {
 
     static void everyExceptionIsThrownByAWrittenThrow() throws IOException {
         String code = codeAlone();
-        String written = "\\bthrow new (IllegalArgument|IllegalState|IndexOutOfBounds)Exception\\(\\);";
+        String written = "\\bthrow new (IllegalArgument|IllegalState|IndexOutOfBounds)"
+                + "Exception\\(\\);";
         int thrown = code.split("\\bthrow\\b", -1).length;
         Check.same("the count of written throws", Integer.toString(thrown),
                 Integer.toString(code.split(written, -1).length));
