@@ -8,9 +8,10 @@ import java.util.List;
 /** Runs every method of the test classes that takes nothing and is not private. */
 public final class AllTests {
     private static final Class<?>[] TESTS = {
-        FaceTest.class, LanguageTest.class, SentencesTest.class, TermsTest.class,
-        BasesAndJobsTest.class, RecipeTest.class, MixAndPrintTest.class, WhatIsWhereTest.class,
-        WashesPlateChipsTest.class, ModelRunsTest.class,
+        FaceTest.class, InterfaceTest.class, LanguageTest.class, SentencesTest.class,
+        ReadmeTest.class, TermsTest.class, BasesAndJobsTest.class, RecipeTest.class,
+        MixAndPrintTest.class, WhatIsWhereTest.class, WashesPlateChipsTest.class,
+        ModelRunsTest.class,
     };
 
     private static int passed;
@@ -22,6 +23,7 @@ public final class AllTests {
     public static void main(String[] args) throws IllegalAccessException {
         LanguageTest.source = args.length > 0 ? args[0] : "src/main/java/InkKitchen.java";
         SentencesTest.document = args.length > 1 ? args[1] : "../shared/DOC.md";
+        ReadmeTest.readme = args.length > 2 ? args[2] : "README.md";
         for (Method test : tests()) {
             run(test);
         }

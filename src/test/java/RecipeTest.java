@@ -186,7 +186,24 @@ final class RecipeTest {
         Check.dueThrow(Check.STATE, () -> room.recipe(1, 6));
     }
 
-    @Says("the one with the most tenths of a tin")
+    @Says("The recipe of a job is, of all that can be made")
+    static void whatCanNotBeMadeIsPassedOver() {
+        InkKitchen room = new InkKitchen();
+        room.buy(1, 12);
+        room.job(100, 10, 20, 10, 0);
+        room.mix(0);
+        room.print(0, 6, false);
+        room.buy(0, 10);
+        room.job(100, 10, 20, 10, 300);
+        // The tin has four tenths, not ten, and base 1 has two, not six.
+        dueRecipe(room, 1, 4, 2, 0, 0, 4, 0, 52);
+        room.buy(1, 4);
+        dueRecipe(room, 1, 0, 6, 0, 0, 4, 0, 0);
+    }
+
+    @Says({"the one with the most tenths of a tin", "A press room that mixes its own inks: colours"
+        + " are mixed from bases and from left tins, as near as a gap allows, with as much of a tin"
+        + " as can be"})
     static void asMuchOfATinAsTheGapAllows() {
         InkKitchen room = roomWithTin(10);
         room.job(50, 5, 10, 10, 65);
@@ -355,6 +372,15 @@ final class RecipeTest {
         InkKitchen other = Rooms.stocked(1000);
         other.job(50, 50, 20, 100, 30);
         dueRecipe(other, 0, 2, 3, 4, 1, 0, -1, 6);
+    }
+
+    @Says(promise = 5, value = "6 the gap")
+    static void theGapToldIsThatOfTheRecipe() {
+        InkKitchen room = roomWithTin(10);
+        int job = room.job(50, 5, 10, 10, 64);
+        // The job may have 64 and the tin alone would have 65; nine tenths of it have 52.
+        dueRecipe(room, job, 1, 0, 0, 0, 9, 0, 52);
+        Check.due(52, () -> room.mix(job));
     }
 
     @Says(promise = 5, value = "5 the tin, -1 if there is none")

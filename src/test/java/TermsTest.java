@@ -94,6 +94,21 @@ final class TermsTest {
         Check.due(9999, () -> room.where(1, 2));
     }
 
+    @Says("An ink is milligrams of the bases; its colour is, part by part, the sum over the bases of"
+        + " its milligrams times the part of the base")
+    static void eachBaseCountsInEachPartByItsMilligrams() {
+        int[][] colours = {{10, 80, 0}, {20, 60, 100}, {30, 40, 50}, {40, 20, 7}};
+        InkKitchen room = new InkKitchen();
+        for (int base = 0; base < 4; base++) {
+            room.setBase(base, colours[base][0], colours[base][1], colours[base][2]);
+            // No more of it, so that one, two, three and four tenths are the only recipe.
+            room.buy(base, base + 1);
+        }
+        Rooms.printed(room, 10, 5, false);
+        // 300, 400 and 378 tenths.
+        dueShade(room, 0, 30, 40, 37);
+    }
+
     @Says("divided by all its milligrams, rounded down.")
     static void aPartThatComesOutWholeStays() {
         InkKitchen room = mixedOfTwo(new int[] {10, 100, 0}, 5, new int[] {20, 0, 100}, 5);
@@ -251,6 +266,16 @@ final class TermsTest {
         dueTin(Rooms.thinned(new int[] {0, 0, 5, 5}, 2, 4), 3, 0, 0, 999, 1);
     }
 
+    @Says({"divided by w, rounded down;", "of the same rest from the lower base"})
+    static void behindAGreaterRestTheLowerBasesOfTheSameRestGiveMore() {
+        // Of 4, 4 and 9992 mg are 3.6, 3.6 and 8992.8 taken.
+        dueTin(Rooms.thinned(new int[] {4, 4, 2, 0}, 2, 4), 3, 0, 1, 999, 0);
+        // Of 3, 3, 3 and 9991 mg are 2.7, 2.7, 2.7 and 8991.9 taken.
+        dueTin(Rooms.thinned(new int[] {3, 3, 3, 1}, 3, 4), 3, 0, 0, 1, 999);
+        // Of 4, 4, 1 and 9991 mg are 3.6, 3.6, 0.9 and 8991.9 taken.
+        dueTin(Rooms.thinned(new int[] {4, 4, 1, 1}, 3, 4), 3, 0, 1, 0, 999);
+    }
+
     @Says("Jobs are numbered from 0, at most 16")
     static void theFirstAndTheLastOfSixteenJobs() {
         InkKitchen room = new InkKitchen();
@@ -260,6 +285,24 @@ final class TermsTest {
         Check.dueThrow(Check.STATE, () -> room.job(1, 2, 3, 10, 4));
         Check.due(0, () -> room.state(15));
         Check.dueThrow(Check.INDEX, () -> room.state(16));
+    }
+
+    @Says("Jobs are numbered from 0, at most 16")
+    static void theLastOfSixteenJobsIsMixedAndPrinted() {
+        InkKitchen room = Rooms.plain(10, 20, 30);
+        for (int i = 0; i < 16; i++) {
+            room.job(10, 20, 30, 10, 0);
+        }
+        Check.due(10, () -> room.recipe(15, 0));
+        Check.due(0, () -> room.mix(15));
+        Check.due(10000, () -> room.where(0, 2));
+        Check.due(15, room::firstRun);
+        Check.due(0, () -> room.print(15, 4, true));
+        Check.due(0, () -> room.where(0, 2));
+        Check.due(6000, () -> room.where(0, 1));
+        Check.due(4000, () -> room.where(0, 3));
+        room.pass(10);
+        Check.due(3, () -> room.chipGap(15, 15));
     }
 
     @Says("each has a colour, grams, which are 10 to 500 in tens, and a gap")
@@ -368,6 +411,48 @@ final class TermsTest {
         Twins.dueRefusal(Check.ARGUMENT, Rooms::busy, wrong);
         Twins.dueRefusal(Check.INDEX, Rooms::busy, noSuch);
         Twins.dueRefusal(Check.STATE, Rooms::busy, notNow);
+    }
+
+    @Says("of several exceptions it is the first one of the throws clause.")
+    static void whereSeveralExceptionsMeetItIsTheFirstOne() {
+        Twins.Maker full = TermsTest::full;
+        Twins.dueRefusal(Check.ARGUMENT, full, room -> Rooms.setBase(room, 4, 1, 1, 1).answer(),
+                room -> room.buy(0, 5001), room -> room.job(1, 1, 1, 15, 0),
+                room -> room.recipe(0, 7), room -> room.recipe(2, -1),
+                room -> room.print(0, 0, true), room -> room.print(15, 11, true),
+                room -> room.pass(101), room -> room.shade(0, 3));
+        Twins.dueRefusal(Check.INDEX, full, room -> room.recipe(16, 7), room -> room.mix(16),
+                room -> room.print(16, 0, true), room -> room.inTin(1, 4),
+                room -> room.shade(1, 3), room -> room.chipGap(15, 16),
+                room -> room.chipGap(16, 15));
+        Twins.dueRefusal(Check.STATE, full, room -> Rooms.setBase(room, 3, 1, 1, 1).answer(),
+                room -> room.buy(0, 5000), room -> room.job(1, 1, 1, 10, 0),
+                room -> room.recipe(0, 6), room -> room.mix(15), room -> room.print(0, 10, true),
+                room -> room.print(15, 10, true), room -> room.pass(100),
+                room -> room.shade(0, 2), InkKitchen::washesByAll,
+                room -> room.chipGap(1, 0), room -> room.chipGap(0, 15));
+    }
+
+    /**
+     * A room on day 10000, with all grams of base 0 bought and with 16 jobs: 0, of 20 grams, is
+     * printed with a chip; of the others, of 10 grams, 1 to 8 are mixed. Tin 0 is empty.
+     */
+    private static InkKitchen full() {
+        InkKitchen room = new InkKitchen();
+        for (int i = 0; i < 20; i++) {
+            room.buy(0, 5000);
+        }
+        Rooms.printed(room, 20, 10, true);
+        for (int i = 1; i < 16; i++) {
+            room.job(0, 0, 0, 10, 0);
+        }
+        for (int job = 1; job < 9; job++) {
+            room.mix(job);
+        }
+        for (int i = 0; i < 100; i++) {
+            room.pass(100);
+        }
+        return room;
     }
 
     /** Asks a recipe of a job of this colour whose gap it may have. */

@@ -126,6 +126,37 @@ final class WashesPlateChipsTest {
         dueBest(room, 460, 3);
     }
 
+    @Says("An order of all mixed jobs")
+    static void eachOfEightMixedJobsIsInTheOrder() {
+        for (int white = 0; white < 8; white++) {
+            InkKitchen room = blackButOne(8, white);
+            int first = white;
+            Check.due(300, room::washes);
+            Check.due(first, room::firstRun);
+        }
+    }
+
+    @Says({"washes between runs in the order that washes least, found in two ways",
+        "An order of all mixed jobs"})
+    static void eachOfSevenMixedJobsIsInTheOrderBothWays() {
+        for (int white = 0; white < 7; white++) {
+            dueBest(blackButOne(7, white), 300, white);
+        }
+    }
+
+    @Says({"washes between runs in the order that washes least, found in two ways",
+        "An order of all mixed jobs"})
+    static void behindBlackTheWhiteOneOfSevenIsTheLastBothWays() {
+        for (int white = 0; white < 7; white++) {
+            InkKitchen room = blackButOne(7, white);
+            int black = white == 0 ? 1 : 0;
+            room.print(black, 10, false);
+            room.job(0, 0, 0, 10, 0);
+            room.mix(7);
+            dueBest(room, 600, white == 0 || white == 1 ? 2 : 1);
+        }
+    }
+
     @Says("of several the one with the lower job where they differ first")
     static void ofTheSameCostTheLowerJobIsFirst() {
         InkKitchen room = Rooms.stocked(1000);
@@ -157,7 +188,7 @@ final class WashesPlateChipsTest {
         Check.due(3, room::firstRun);
     }
 
-    @Says("The plate wears by 1 with each printing")
+    @Says({"The plate wears by 1 with each printing", "plates that wear"})
     static void thePlateWearsByOneWithEachPrinting() {
         InkKitchen room = Rooms.plain(0, 0, 0);
         for (int i = 1; i < 10; i++) {
@@ -236,7 +267,8 @@ final class WashesPlateChipsTest {
         Check.due(3, () -> room.chipGap(0, 0));
     }
 
-    @Says("it fades: with each 10 days that have gone by since")
+    @Says({"it fades: with each 10 days that have gone by since",
+        "chips of customers that fade."})
     static void aChipFadesWithTheTenthDayNotWithTheNinth() {
         InkKitchen room = Rooms.plain(50, 60, 70);
         Rooms.printed(room, 10, 1, true);
@@ -567,6 +599,18 @@ final class WashesPlateChipsTest {
             // There is nothing else in stock, so that it is this base alone.
             room.buy(base, 10);
             Rooms.mixed(room, 10);
+        }
+        return room;
+    }
+
+    /** A room with some mixed jobs, all of them black but one that is white. */
+    private static InkKitchen blackButOne(int jobs, int white) {
+        InkKitchen room = Rooms.stocked(1000);
+        room.setBase(3, 100, 100, 100);
+        for (int i = 0; i < jobs; i++) {
+            int part = i == white ? 100 : 0;
+            room.job(part, part, part, 10, 0);
+            room.mix(i);
         }
         return room;
     }

@@ -260,6 +260,34 @@ final class WhatIsWhereTest {
                 room -> room.where(-1, -1), room -> room.where(4, 0), room -> room.where(0, 4));
     }
 
+    @Says("what is printed, what is left, and where each milligram of each base is")
+    static void noMilligramIsLostOrMade() {
+        InkKitchen room = new InkKitchen();
+        int[] bought = {150, 140, 130, 120};
+        for (int base = 0; base < 4; base++) {
+            room.buy(base, bought[base]);
+        }
+        for (int i = 0; i < 16; i++) {
+            int job = room.job(6 * i, 95 - 6 * i, 40 + i, 10 * (1 + i % 3), 300);
+            room.mix(job);
+            dueAllInAll(room, bought);
+            room.print(job, 1 + 3 * i % 10, false);
+        }
+        dueAllInAll(room, bought);
+        Check.same("whether tins were left", "true", Boolean.toString(room.tins() > 10));
+    }
+
+    private static void dueAllInAll(InkKitchen room, int[] grams) {
+        for (int base = 0; base < 4; base++) {
+            int found = 0;
+            for (int place = STOCK; place <= PAPER; place++) {
+                found += room.where(base, place);
+            }
+            Check.same("all of base " + base, Integer.toString(1000 * grams[base]),
+                    Integer.toString(found));
+        }
+    }
+
     private static InkKitchen withTwoTins() {
         InkKitchen room = Rooms.plain(10, 20, 30);
         Rooms.mixed(room, 20);
